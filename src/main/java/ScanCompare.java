@@ -298,7 +298,7 @@ public final class ScanCompare {
 
     public int blockDifference(int i, int j) throws IllegalStateException, IndexOutOfBoundsException {
         requireComparison();
-        if (i < 0 || i >= result.columns || j < 0 || j >= result.bands) {
+        if (i < 0 || i >= result.columns || j < 0 || j >= result.blockRows) {
             throw new IndexOutOfBoundsException("no such block");
         }
         return result.differenceOf(i, j);
@@ -1034,16 +1034,16 @@ public final class ScanCompare {
 
     /** The settings with their names, ranges and initial values; some have words for 0 and 1. */
     private enum Setting {
-        BLOCK(0, "block", 4, 16, 8, "", ""),
-        NOISE(1, "noise", 0, GREATEST_NOISE, 2, "", ""),
-        JITTER(2, "jitter", 0, 2, 1, "", ""),
-        SPECKLE(3, "speckle", 0, 9, 0, "", ""),
-        SEARCH(4, "search", 0, 16, 8, "", ""),
-        SKEW(5, "skew", 0, 2, 0, "", ""),
-        TURN(6, "turn", 0, 1, 0, "off", "on"),
-        ORDER(7, "order", 0, 1, 0, "rows", "columns"),
-        PAIR(8, "pair", 1, 99, 4, "", ""),
-        STAMPS(9, "stamps", 0, 1, 0, "keep", "hide");
+        BLOCK(0, "block", 4, 16, 8),
+        NOISE(1, "noise", 0, GREATEST_NOISE, 2),
+        JITTER(2, "jitter", 0, 2, 1),
+        SPECKLE(3, "speckle", 0, 9, 0),
+        SEARCH(4, "search", 0, GREATEST_SHIFT, 8),
+        SKEW(5, "skew", 0, 2, 0),
+        TURN(6, "turn", "off", "on"),
+        ORDER(7, "order", "rows", "columns"),
+        PAIR(8, "pair", 1, 99, 4),
+        STAMPS(9, "stamps", "keep", "hide");
 
         final int number;
         final String label;
@@ -1053,12 +1053,22 @@ public final class ScanCompare {
         final String zeroWord;
         final String oneWord;
 
-        Setting(int number, String label, int least, int greatest, int initial, String zeroWord, String oneWord) {
+        Setting(int number, String label, int least, int greatest, int initial) {
             this.number = number;
             this.label = label;
             this.least = least;
             this.greatest = greatest;
             this.initial = initial;
+            zeroWord = "";
+            oneWord = "";
+        }
+
+        Setting(int number, String label, String zeroWord, String oneWord) {
+            this.number = number;
+            this.label = label;
+            least = 0;
+            greatest = 1;
+            initial = 0;
             this.zeroWord = zeroWord;
             this.oneWord = oneWord;
         }
@@ -1453,7 +1463,9 @@ public final class ScanCompare {
                 for (int k = 0; k <= 2 * mostSlant; k++) {
                     int s = (k & 1) == 1 ? -(k + 1) / 2 : k / 2;
                     look(scan, turn == 1, s);
-                    findShift(original, reach);
+                    countCells(view, viewCells);
+                    findCoarse(reach / CELL);
+                    findFine(original, CELL * bestX, CELL * bestY, reach);
                     if (bestCost < cost) {
                         dx = bestX;
                         dy = bestY;
@@ -1495,12 +1507,6 @@ public final class ScanCompare {
                     }
                 }
             }
-        }
-
-        private void findShift(Image original, int reach) {
-            countCells(view, viewCells);
-            findCoarse(reach / CELL);
-            findFine(original, CELL * bestX, CELL * bestY, reach);
         }
 
         private void findCoarse(int most) {
@@ -1617,8 +1623,7 @@ public final class ScanCompare {
         final Registration registration;
         private int side;
         int columns;
-        /** The number of rows of blocks. */
-        int bands;
+        int blockRows;
         private final int[] differences = new int[MOST_BLOCKS];
         /** For each block the region in the order of finding, -1 for none. */
         private final int[] labels = new int[MOST_BLOCKS];
@@ -1673,7 +1678,7 @@ public final class ScanCompare {
         private void measureBlocks(int block) {
             side = Math.max(CELL, block);
             columns = (width + side - 1) / side;
-            bands = (height + side - 1) / side;
+            blockRows = (height + side - 1) / side;
             for (int b = 0; b < blockCount(); b++) {
                 int x = b % Math.max(1, columns) * side;
                 int y = b / Math.max(1, columns) * side;
@@ -1682,7 +1687,7 @@ public final class ScanCompare {
         }
 
         private int blockCount() {
-            return Math.min(MOST_BLOCKS, columns * bands);
+            return Math.min(MOST_BLOCKS, columns * blockRows);
         }
 
         int differenceOf(int i, int j) {
@@ -1785,7 +1790,7 @@ public final class ScanCompare {
 
         private void collect(Part part, Image image, int label) {
             part.begin();
-            for (int j = 0; j < bands; j++) {
+            for (int j = 0; j < blockRows; j++) {
                 long span = spanOf(label, j);
                 for (int y = j * side; span != 0L && y < height && y < (j + 1) * side; y++) {
                     part.takeRow(y, image.rowAt(y) & span);
