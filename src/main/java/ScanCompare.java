@@ -824,15 +824,18 @@ public final class ScanCompare {
             return false;
         }
 
-        /** Each sweep but the last adds a pixel, so there are at most as many as the page has pixels. */
+        /**
+         * The seed lies in the first row with open ink, so the component grows downward alone. Each sweep
+         * but the last adds a pixel, so there are at most as many as the page has pixels and one more.
+         */
         private void grow() {
             boolean grown = true;
             for (int sweep = 0; grown && sweep <= area; sweep++) {
                 grown = false;
-                for (int y = top; y <= bottom; y++) {
+                for (int y = top; y < height && y <= bottom + 1; y++) {
                     grown |= spread(y);
                 }
-                for (int y = bottom + 1; y >= top - 1; y--) {
+                for (int y = bottom; y >= top; y--) {
                     grown |= spread(y);
                 }
             }
@@ -852,7 +855,6 @@ public final class ScanCompare {
                 return false;
             }
             blob[y] = reached;
-            top = Math.min(top, y);
             bottom = Math.max(bottom, y);
             return true;
         }
