@@ -1,114 +1,5 @@
 /** At least one test for each promise of the document: ordinary inputs, edges and wrong inputs. */
-public final class PromiseTests {
-    private static final int LOW = Integer.MIN_VALUE;
-    private static final int HIGH = Integer.MAX_VALUE;
-    private static final String STATE = "IllegalStateException";
-    private static final String INDEX = "IndexOutOfBoundsException";
-    private static final String ARGUMENT = "IllegalArgumentException";
-    private static String promise = "";
-    private static int wrong = 0;
-
-    private interface Call {
-        Object answer();
-    }
-
-    private static void due(Object got, Object want) {
-        if (!String.valueOf(want).equals(String.valueOf(got))) {
-            wrong++;
-            StackTraceElement at = new Throwable().getStackTrace()[1];
-            System.out.println(promise + ", line " + at.getLineNumber() + ": answered " + got + ", due is " + want);
-        }
-    }
-
-    private static void thrown(String want, Call call) {
-        String got;
-        try {
-            got = "answer " + call.answer();
-        } catch (RuntimeException e) {
-            got = e.getClass().getSimpleName();
-        }
-        if (!want.equals(got)) {
-            wrong++;
-            StackTraceElement at = new Throwable().getStackTrace()[1];
-            System.out.println(promise + ", line " + at.getLineNumber() + ": " + got + ", due is " + want);
-        }
-    }
-
-    private static void draw(ScanCompare x, int page, String... rows) {
-        for (int y = 0; y < rows.length; y++) {
-            long bits = 0;
-            for (int k = 0; k < rows[y].length(); k++) {
-                if (rows[y].charAt(k) == '#') {
-                    bits |= 1L << k;
-                }
-            }
-            x.setRow(page, y, bits);
-        }
-    }
-
-    private static int type(ScanCompare x, String text) {
-        int length = 0;
-        for (char c : text.toCharArray()) {
-            length = x.type(c);
-        }
-        return length;
-    }
-
-    private static int configure(ScanCompare x, String text) {
-        x.clearText();
-        type(x, text);
-        return x.configure();
-    }
-
-    private static int paste(ScanCompare x, int page, int left, int top, String text) {
-        x.clearText();
-        type(x, text);
-        return x.paste(page, left, top);
-    }
-
-    private static String report(ScanCompare x) {
-        StringBuilder all = new StringBuilder();
-        for (int i = 0; x.reportChar(i) >= 0; i++) {
-            all.append((char) x.reportChar(i));
-        }
-        return all.toString();
-    }
-
-    private static String description(ScanCompare x) {
-        StringBuilder all = new StringBuilder();
-        for (int i = 0; x.configChar(i) >= 0; i++) {
-            all.append((char) x.configChar(i));
-        }
-        return all.toString();
-    }
-
-    /** Two pages of 32 by 32 that are alike, but for a part removed, one added and one moved. */
-    private static ScanCompare three() {
-        ScanCompare x = new ScanCompare(32, 32);
-        x.fill(0, 0, 28, 32, 4, true);
-        x.fill(0, 1, 1, 3, 3, true);    // removed, in block (0, 0)
-        x.fill(0, 17, 1, 4, 2, true);   // moved away
-        x.copy(0, 1, 0, 0);
-        x.fill(1, 1, 1, 3, 3, false);
-        x.fill(1, 17, 1, 4, 2, false);
-        x.fill(1, 1, 17, 4, 2, true);   // moved to here
-        x.fill(1, 18, 17, 5, 5, true);  // added
-        return x;
-    }
-
-    private static ScanCompare compared() {
-        ScanCompare x = three();
-        x.compare();
-        return x;
-    }
-
-    /** A page with a part of each kind far away from the others, and block 4, noise 0, jitter 0, search 0. */
-    private static ScanCompare plain(int w, int h) {
-        ScanCompare x = new ScanCompare(w, h);
-        configure(x, "block=4;noise=0;jitter=0;search=0;pair=1");
-        return x;
-    }
-
+public final class PromiseTests extends Checks {
     public static void main(String[] args) {
         Object[][] tests = {
             {"promise 1", (Runnable) PromiseTests::newObject},
@@ -159,13 +50,10 @@ public final class PromiseTests {
             {"examples", (Runnable) PromiseTests::examples},
         };
         for (Object[] test : tests) {
-            promise = (String) test[0];
+            title = (String) test[0];
             ((Runnable) test[1]).run();
         }
-        System.out.println(wrong == 0 ? "all promises hold" : wrong + " answers are not as due");
-        if (wrong != 0) {
-            System.exit(1);
-        }
+        end("all promises hold");
     }
 
     private static void newObject() {
@@ -375,7 +263,7 @@ public final class PromiseTests {
         int[] places = {0, 1, 1, 3, 0, 0, 0, 0, 2, 3, 2, 1, 2, 0,
             2, 2, 2, 0, 1, 1, 1, 0, 1, 7, 1, 1, 2, 0};
         for (int i = 0; i < texts.length; i++) {
-            promise = "promise 9, errors, " + texts[i];
+            title = "promise 9, errors, " + texts[i];
             due(paste(x, 0, 0, 0, texts[i]), -1 - places[i]);
             due(x.clearText(), texts[i].length());
         }
@@ -601,7 +489,7 @@ public final class PromiseTests {
             7, 7, 8, 8, 7, 7, 15,
             8, 0, 5, 5, 5, 7, 15};
         for (int i = 0; i < texts.length; i++) {
-            promise = "promise 20, errors, " + texts[i];
+            title = "promise 20, errors, " + texts[i];
             due(configure(x, texts[i]), -1 - places[i]);
             due(x.clearText(), texts[i].length());
         }
@@ -1019,15 +907,6 @@ public final class PromiseTests {
         due(y.addedPixels(0), 7);
     }
 
-    private static String lefts(ScanCompare x) {
-        x.compare();
-        StringBuilder all = new StringBuilder();
-        for (int r = 0; r < x.regions(); r++) {
-            all.append(x.regionLeft(r)).append(',').append(x.regionTop(r)).append(' ');
-        }
-        return all.toString();
-    }
-
     private static void readingOrder() {
         ScanCompare x = plain(40, 40);
         x.fill(1, 20, 1, 2, 6, true);    // rows 1 to 6
@@ -1035,26 +914,26 @@ public final class PromiseTests {
         x.fill(1, 30, 9, 2, 1, true);    // row 9, in the band by the one before
         x.fill(1, 12, 10, 2, 2, true);   // row 10 begins the next band
         x.fill(1, 36, 2, 1, 1, true);
-        due(lefts(x), "4,6 20,1 30,9 36,2 12,10 ");
+        due(corners(x), "4,6 20,1 30,9 36,2 12,10 ");
         configure(x, "order=columns");
-        due(lefts(x), "4,6 12,10 20,1 30,9 36,2 ");
+        due(corners(x), "4,6 12,10 20,1 30,9 36,2 ");
         x.fill(1, 13, 30, 10, 2, true);  // columns 13 to 22 join those of 12 and 20
-        due(lefts(x), "4,6 20,1 12,10 13,30 30,9 36,2 ");
+        due(corners(x), "4,6 20,1 12,10 13,30 30,9 36,2 ");
         configure(x, "order=rows");
-        due(lefts(x), "4,6 20,1 30,9 36,2 12,10 13,30 ");
+        due(corners(x), "4,6 20,1 30,9 36,2 12,10 13,30 ");
         // The end of a band is the greatest bottom, not the latest.
         ScanCompare y = plain(40, 40);
         y.fill(1, 30, 0, 2, 20, true);
         y.fill(1, 20, 3, 2, 2, true);
         y.fill(1, 10, 20, 2, 1, true);
         y.fill(1, 1, 19, 2, 1, true);
-        due(lefts(y), "1,19 20,3 30,0 10,20 ");
+        due(corners(y), "1,19 20,3 30,0 10,20 ");
         // Equal lefts: the top decides.
         ScanCompare z = plain(40, 40);
         z.fill(1, 24, 0, 2, 30, true);
         z.fill(1, 4, 20, 2, 2, true);
         z.fill(1, 4, 8, 2, 2, true);
-        due(lefts(z), "4,8 4,20 24,0 ");
+        due(corners(z), "4,8 4,20 24,0 ");
     }
 
     private static void changes() {
