@@ -43,8 +43,8 @@ public final class BoundaryTests extends Checks {
     // ---- pages
 
     private static void newObjects() {
-        int[][] sizes = {{LOW, 8}, {-64, 8}, {-1, 8}, {0, 8}, {7, 8}, {8, 8}, {9, 9}, {63, 63}, {64, 64}, {65, 64}, {128, 64},
-            {HIGH, 64}};
+        int[][] sizes = {{LOW, 8}, {-64, 8}, {-1, 8}, {0, 8}, {7, 8}, {8, 8}, {9, 9}, {63, 63}, {64, 64}, {65, 64},
+            {128, 64}, {HIGH, 64}};
         promise(1, "a value less than 8 means 8, a value greater than 64 means 64", () -> {
             for (int[] size : sizes) {
                 ScanCompare x = new ScanCompare(size[0], 10);
@@ -64,7 +64,8 @@ public final class BoundaryTests extends Checks {
             due(new ScanCompare(HIGH, LOW).fill(0, 0, 0, HIGH, HIGH, true), 512);
             due(new ScanCompare(LOW, HIGH).fill(0, 0, 0, HIGH, HIGH, true), 512);
         });
-        promise(1, "Creates four blank pages, with the initial settings, an empty text, no masks, no stamps, and no comparison.", () -> {
+        promise(1, "Creates four blank pages, with the initial settings, an empty text, no masks, no stamps, and no"
+            + " comparison.", () -> {
             ScanCompare x = new ScanCompare(64, 64);
             for (int p = 0; p < 4; p++) {
                 due(x.ink(p, 0, 0, 64, 64), 0);
@@ -88,7 +89,8 @@ public final class BoundaryTests extends Checks {
             for (int p : BAD_PAGES) {
                 thrown(INDEX, () -> x.row(p, 0), () -> x.row(p, 9));
             }
-            thrown(INDEX, () -> x.row(0, -1), () -> x.row(3, 9), () -> x.row(0, LOW), () -> x.row(0, HIGH), () -> x.row(0, 64));
+            thrown(INDEX, () -> x.row(0, -1), () -> x.row(3, 9), () -> x.row(0, LOW), () -> x.row(0, HIGH),
+                () -> x.row(0, 64));
         });
         promise(3, "the new row; bits from W on are ignored", () -> {
             for (int w : new int[] {8, 9, 31, 32, 33, 63, 64}) {
@@ -115,7 +117,8 @@ public final class BoundaryTests extends Checks {
             for (int p : BAD_PAGES) {
                 thrown(INDEX, () -> x.setRow(p, 0, 1), () -> x.setRow(p, -1, 1));
             }
-            thrown(INDEX, () -> x.setRow(0, -1, 1), () -> x.setRow(0, 9, 1), () -> x.setRow(0, HIGH, 1), () -> x.setRow(0, LOW, 1));
+            thrown(INDEX, () -> x.setRow(0, -1, 1), () -> x.setRow(0, 9, 1), () -> x.setRow(0, HIGH, 1),
+                () -> x.setRow(0, LOW, 1));
             due(x.setRow(3, 8, 1), 1);
             due(x.undo(), 0);
         });
@@ -134,9 +137,9 @@ public final class BoundaryTests extends Checks {
             due(x.ink(0, 0, 0, 9, 11), 36);
         });
         promise(4, "the left column of the rectangle, any int", () -> {
-            int[][] tries = {{LOW, HIGH, 0}, {-HIGH, HIGH, 0}, {-HIGH + 1, HIGH, 1}, {-HIGH + 9, HIGH, 9}, {-HIGH + 10, HIGH, 9},
-                {HIGH, HIGH, 0}, {HIGH, 1, 0}, {8, HIGH, 1}, {9, HIGH, 0}, {0, HIGH, 9}, {1, HIGH, 8}, {LOW, 0, 0}, {-64, 64, 0},
-                {-64, 65, 1}, {64, 64, 0}, {-1, 1, 0}, {-1, 2, 1}};
+            int[][] tries = {{LOW, HIGH, 0}, {-HIGH, HIGH, 0}, {-HIGH + 1, HIGH, 1}, {-HIGH + 9, HIGH, 9},
+                {-HIGH + 10, HIGH, 9}, {HIGH, HIGH, 0}, {HIGH, 1, 0}, {8, HIGH, 1}, {9, HIGH, 0}, {0, HIGH, 9},
+                {1, HIGH, 8}, {LOW, 0, 0}, {-64, 64, 0}, {-64, 65, 1}, {64, 64, 0}, {-1, 1, 0}, {-1, 2, 1}};
             for (int[] t : tries) {
                 ScanCompare x = new ScanCompare(9, 11);
                 due(x.fill(0, t[0], 0, t[1], 1, true), t[2]);
@@ -146,8 +149,8 @@ public final class BoundaryTests extends Checks {
         });
         promise(4, "the top row of the rectangle, any int", () -> {
             int[][] tries = {{LOW, HIGH, 0}, {-HIGH, HIGH, 0}, {-HIGH + 1, HIGH, 1}, {-HIGH + 11, HIGH, 11},
-                {-HIGH + 12, HIGH, 11}, {HIGH, HIGH, 0}, {HIGH, 1, 0}, {10, HIGH, 1}, {11, HIGH, 0}, {0, HIGH, 11}, {1, HIGH, 10},
-                {LOW, 0, 0}, {-64, 64, 0}, {-64, 65, 1}, {-1, 1, 0}, {-1, 2, 1}};
+                {-HIGH + 12, HIGH, 11}, {HIGH, HIGH, 0}, {HIGH, 1, 0}, {10, HIGH, 1}, {11, HIGH, 0}, {0, HIGH, 11},
+                {1, HIGH, 10}, {LOW, 0, 0}, {-64, 64, 0}, {-64, 65, 1}, {-1, 1, 0}, {-1, 2, 1}};
             for (int[] t : tries) {
                 ScanCompare x = new ScanCompare(9, 11);
                 due(x.fill(0, 0, t[0], 1, t[1], true), t[2]);
@@ -181,11 +184,13 @@ public final class BoundaryTests extends Checks {
     }
 
     private static void copies() {
-        promise(5, "each pixel (x, y) of the target becomes what the pixel (x - dx, y - dy) of the source was (blank if that is outside).", () -> {
+        promise(5, "each pixel (x, y) of the target becomes what the pixel (x - dx, y - dy) of the source was"
+            + " (blank if that is outside).", () -> {
             ScanCompare x = new ScanCompare(64, 9);
             x.fill(0, 0, 0, 64, 9, true);
-            int[][] tries = {{0, 0, 576}, {63, 0, 9}, {-63, 0, 9}, {64, 0, 0}, {-64, 0, 0}, {65, 0, 0}, {-65, 0, 0}, {128, 0, 0},
-                {0, 8, 64}, {0, -8, 64}, {0, 9, 0}, {0, -9, 0}, {63, 8, 1}, {-63, -8, 1}, {1, 1, 504}, {32, -4, 160}};
+            int[][] tries = {{0, 0, 576}, {63, 0, 9}, {-63, 0, 9}, {64, 0, 0}, {-64, 0, 0}, {65, 0, 0}, {-65, 0, 0},
+                {128, 0, 0}, {0, 8, 64}, {0, -8, 64}, {0, 9, 0}, {0, -9, 0}, {63, 8, 1}, {-63, -8, 1}, {1, 1, 504},
+                {32, -4, 160}};
             for (int[] t : tries) {
                 x.fill(1, 0, 0, 64, 9, false);
                 due(x.copy(0, 1, t[0], t[1]), t[2]);
@@ -260,7 +265,8 @@ public final class BoundaryTests extends Checks {
     }
 
     private static void flips() {
-        promise(7, "0 to mirror it left to right, 1 to mirror it top to bottom, 2 for both, which is a rotation by 180 degrees", () -> {
+        promise(7, "0 to mirror it left to right, 1 to mirror it top to bottom, 2 for both, which is a rotation by"
+            + " 180 degrees", () -> {
             for (int[] size : new int[][] {{8, 8}, {9, 11}, {63, 8}, {64, 64}}) {
                 int right = size[0] - 1;
                 int bottom = size[1] - 1;
@@ -328,7 +334,8 @@ public final class BoundaryTests extends Checks {
         });
         promise(8, "if size is out of its range", () -> {
             ScanCompare x = new ScanCompare(8, 8);
-            thrown(ARGUMENT, () -> x.despeckle(0, -1), () -> x.despeckle(3, 65), () -> x.despeckle(0, LOW), () -> x.despeckle(0, HIGH));
+            thrown(ARGUMENT, () -> x.despeckle(0, -1), () -> x.despeckle(3, 65), () -> x.despeckle(0, LOW),
+                () -> x.despeckle(0, HIGH));
             thrown(STATE, x::undo);
         });
         promise(8, "if page is out of its range", () -> {
@@ -357,7 +364,8 @@ public final class BoundaryTests extends Checks {
             due(x.paste(0, 0, 0), -1);
             thrown(STATE, x::undo);
         });
-        promise(9, "Returns the number of pixels that change; -1 minus the error position if the text has an error.", () -> {
+        promise(9, "Returns the number of pixels that change; -1 minus the error position if the text has an error.",
+            () -> {
             ScanCompare x = new ScanCompare(8, 8);
             due(paste(x, 0, 0, 0, "4o4b!"), 4);
             due(paste(x, 0, 0, 0, "2b6o!"), 6);
@@ -415,7 +423,8 @@ public final class BoundaryTests extends Checks {
             thrown(INDEX, () -> x.lineTop(0, 0), () -> x.lineTop(0, -1));
             draw(x, 3, "#", "", "#", "#", "", "", "", "#");
             due(x.lineTop(3, 0) + " " + x.lineTop(3, 1) + " " + x.lineTop(3, 2), "0 2 7");
-            thrown(INDEX, () -> x.lineTop(3, 3), () -> x.lineTop(3, -1), () -> x.lineTop(3, LOW), () -> x.lineTop(3, HIGH));
+            thrown(INDEX, () -> x.lineTop(3, 3), () -> x.lineTop(3, -1), () -> x.lineTop(3, LOW),
+                () -> x.lineTop(3, HIGH));
             for (int p : BAD_PAGES) {
                 thrown(INDEX, () -> x.lineTop(p, 0), () -> x.lineTop(p, -1));
             }
@@ -434,7 +443,8 @@ public final class BoundaryTests extends Checks {
     }
 
     private static void words() {
-        promise(14, "Two successive ones of these columns belong to the same word if fewer than gap columns are between them.", () -> {
+        promise(14, "Two successive ones of these columns belong to the same word if fewer than gap columns are"
+            + " between them.", () -> {
             for (int between = 0; between <= 62; between++) {
                 ScanCompare x = new ScanCompare(64, 8);
                 dots(x, 0, 0, 3, between + 1, 3);
@@ -462,7 +472,8 @@ public final class BoundaryTests extends Checks {
             thrown(INDEX, () -> x.words(0, 0, 1), () -> x.words(0, 0, 0));
             dots(x, 3, 0, 7);
             due(x.words(3, 0, 1), 1);
-            thrown(INDEX, () -> x.words(3, 1, 1), () -> x.words(3, -1, 65), () -> x.words(3, HIGH, 0), () -> x.words(3, LOW, 1));
+            thrown(INDEX, () -> x.words(3, 1, 1), () -> x.words(3, -1, 65), () -> x.words(3, HIGH, 0),
+                () -> x.words(3, LOW, 1));
             for (int p : BAD_PAGES) {
                 thrown(INDEX, () -> x.words(p, 0, 1), () -> x.words(p, 0, 0));
             }
@@ -470,7 +481,8 @@ public final class BoundaryTests extends Checks {
         promise(14, "if gap is out of its range", () -> {
             ScanCompare x = new ScanCompare(8, 8);
             dots(x, 0, 0, 0);
-            thrown(ARGUMENT, () -> x.words(0, 0, 0), () -> x.words(0, 0, 65), () -> x.words(0, 0, LOW), () -> x.words(0, 0, HIGH));
+            thrown(ARGUMENT, () -> x.words(0, 0, 0), () -> x.words(0, 0, 65), () -> x.words(0, 0, LOW),
+                () -> x.words(0, 0, HIGH));
             due(x.words(0, 0, 1) + x.words(0, 0, 64), 2);
         });
     }
@@ -479,10 +491,11 @@ public final class BoundaryTests extends Checks {
         promise(15, "Counts the ink pixels of a page in a rectangle, as far as it belongs to the page.", () -> {
             ScanCompare x = new ScanCompare(9, 11);
             x.fill(0, 0, 0, 9, 11, true);
-            int[][] tries = {{0, 0, 9, 11, 99}, {-1, -1, 11, 13, 99}, {0, 0, HIGH, HIGH, 99}, {8, 10, HIGH, HIGH, 1}, {9, 0, 9, 9, 0},
-                {0, 11, 9, 9, 0}, {-5, -5, 5, 64, 0}, {-5, -5, 64, 5, 0}, {-5, -5, 6, 6, 1}, {LOW, LOW, HIGH, HIGH, 0},
-                {-HIGH + 1, -HIGH + 1, HIGH, HIGH, 1}, {HIGH, HIGH, HIGH, HIGH, 0}, {0, 0, 0, 9, 0}, {0, 0, 9, 0, 0}, {4, 4, 1, 1, 1},
-                {-HIGH + 9, -HIGH + 11, HIGH, HIGH, 99}, {LOW, 0, 9, 9, 0}};
+            int[][] tries = {{0, 0, 9, 11, 99}, {-1, -1, 11, 13, 99}, {0, 0, HIGH, HIGH, 99}, {8, 10, HIGH, HIGH, 1},
+                {9, 0, 9, 9, 0}, {0, 11, 9, 9, 0}, {-5, -5, 5, 64, 0}, {-5, -5, 64, 5, 0}, {-5, -5, 6, 6, 1},
+                {LOW, LOW, HIGH, HIGH, 0}, {-HIGH + 1, -HIGH + 1, HIGH, HIGH, 1}, {HIGH, HIGH, HIGH, HIGH, 0},
+                {0, 0, 0, 9, 0}, {0, 0, 9, 0, 0}, {4, 4, 1, 1, 1}, {-HIGH + 9, -HIGH + 11, HIGH, HIGH, 99},
+                {LOW, 0, 9, 9, 0}};
             for (int[] t : tries) {
                 due(x.ink(0, t[0], t[1], t[2], t[3]), t[4]);
             }
@@ -501,7 +514,8 @@ public final class BoundaryTests extends Checks {
     }
 
     private static void fingerprints() {
-        promise(16, "and, for each row from the top, 31 times itself plus the row, in long arithmetic with overflow.", () -> {
+        promise(16, "and, for each row from the top, 31 times itself plus the row, in long arithmetic with overflow.",
+            () -> {
             for (int[] size : new int[][] {{8, 64}, {64, 8}, {64, 64}, {8, 8}}) {
                 ScanCompare x = new ScanCompare(size[0], size[1]);
                 x.fill(3, 0, 0, 64, 64, true);
@@ -557,8 +571,8 @@ public final class BoundaryTests extends Checks {
     private static void typing() {
         promise(18, "if c is out of its range", () -> {
             ScanCompare x = new ScanCompare(8, 8);
-            thrown(ARGUMENT, () -> x.type(31), () -> x.type(127), () -> x.type(0), () -> x.type(-1), () -> x.type(LOW),
-                () -> x.type(HIGH), () -> x.type(32 + 256), () -> x.type(111 + 65536));
+            thrown(ARGUMENT, () -> x.type(31), () -> x.type(127), () -> x.type(0), () -> x.type(-1),
+                () -> x.type(LOW), () -> x.type(HIGH), () -> x.type(32 + 256), () -> x.type(111 + 65536));
             due(x.type(32) + " " + x.type(126), "1 2");
         });
         promise(18, "if the text has 80 characters already", () -> {
@@ -591,7 +605,8 @@ public final class BoundaryTests extends Checks {
             due(x.type('6'), 8);
             due(x.configure() + " " + x.setting(0), "1 16");
         });
-        promise(20, "Returns the number of settings in the text, repeated ones included; -1 minus the error position if the text has an error.", () -> {
+        promise(20, "Returns the number of settings in the text, repeated ones included; -1 minus the error"
+            + " position if the text has an error.", () -> {
             ScanCompare x = new ScanCompare(8, 8);
             due(x.configure(), 0);
             due(configure(x, "skew=1;skew=1;skew=2"), 3);
@@ -609,8 +624,8 @@ public final class BoundaryTests extends Checks {
     }
 
     private static void configChars() {
-        promise(22, "The description contains each setting that has been given to configure() without an error so far, once,"
-            + " in the order in which they were first given", () -> {
+        promise(22, "The description contains each setting that has been given to configure() without an error so"
+            + " far, once, in the order in which they were first given", () -> {
             ScanCompare x = new ScanCompare(8, 8);
             due(description(x), "");
             x.configure();
@@ -624,7 +639,8 @@ public final class BoundaryTests extends Checks {
             due(configure(x, all), 8);
             due(description(x), "pair=11;block=8;" + all);
             due(configure(x, "noise=256;stamps=keep;order=rows;turn=off"), 4);
-            due(description(x), "pair=11;block=8;stamps=keep;order=rows;turn=off;skew=0;search=0;speckle=0;jitter=0;noise=256");
+            due(description(x), "pair=11;block=8;stamps=keep;order=rows;turn=off;skew=0;search=0;speckle=0;jitter=0;"
+                + "noise=256");
         });
         promise(22, "its present value (as a number without leading zeros, or as a word)", () -> {
             ScanCompare x = new ScanCompare(8, 8);
@@ -641,7 +657,8 @@ public final class BoundaryTests extends Checks {
             ScanCompare x = new ScanCompare(8, 8);
             due(x.configChar(0) + " " + x.configChar(HIGH), "-1 -1");
             configure(x, "noise=5;skew=1");
-            due(x.configChar(0) + " " + x.configChar(7) + " " + x.configChar(13) + " " + x.configChar(14), "110 59 49 -1");
+            due(x.configChar(0) + " " + x.configChar(7) + " " + x.configChar(13) + " " + x.configChar(14),
+                "110 59 49 -1");
             due(x.configChar(HIGH), -1);
         });
         promise(22, "if i is negative", () -> {
@@ -655,10 +672,11 @@ public final class BoundaryTests extends Checks {
     private static void masks() {
         promise(23, "if the rectangle is not as described", () -> {
             ScanCompare x = new ScanCompare(9, 11);
-            int[][] bad = {{-1, 0, 1, 1}, {0, -1, 1, 1}, {0, 0, 0, 1}, {0, 0, 1, 0}, {0, 0, -1, 1}, {0, 0, 1, -1}, {0, 0, 10, 1},
-                {0, 0, 1, 12}, {8, 0, 2, 1}, {0, 10, 1, 2}, {9, 0, 1, 1}, {0, 11, 1, 1}, {9, 0, 0, 1}, {0, 11, 1, 0}, {-1, 0, 3, 1},
-                {0, -1, 1, 3}, {1, 0, HIGH, 1}, {0, 1, 1, HIGH}, {HIGH, 0, HIGH, 1}, {0, HIGH, 1, HIGH}, {HIGH, HIGH, 2, 2},
-                {LOW, LOW, LOW, LOW}, {LOW, 0, 1, 1}, {0, LOW, 1, 1}, {0, 0, LOW, 1}, {0, 0, 1, LOW}, {HIGH, 0, LOW, 1}};
+            int[][] bad = {{-1, 0, 1, 1}, {0, -1, 1, 1}, {0, 0, 0, 1}, {0, 0, 1, 0}, {0, 0, -1, 1}, {0, 0, 1, -1},
+                {0, 0, 10, 1}, {0, 0, 1, 12}, {8, 0, 2, 1}, {0, 10, 1, 2}, {9, 0, 1, 1}, {0, 11, 1, 1}, {9, 0, 0, 1},
+                {0, 11, 1, 0}, {-1, 0, 3, 1}, {0, -1, 1, 3}, {1, 0, HIGH, 1}, {0, 1, 1, HIGH}, {HIGH, 0, HIGH, 1},
+                {0, HIGH, 1, HIGH}, {HIGH, HIGH, 2, 2}, {LOW, LOW, LOW, LOW}, {LOW, 0, 1, 1}, {0, LOW, 1, 1},
+                {0, 0, LOW, 1}, {0, 0, 1, LOW}, {HIGH, 0, LOW, 1}};
             for (int[] m : bad) {
                 thrown(ARGUMENT, () -> x.addMask(m[0], m[1], m[2], m[3]));
             }
@@ -683,7 +701,8 @@ public final class BoundaryTests extends Checks {
             ScanCompare x = new ScanCompare(8, 8);
             thrown(INDEX, () -> x.removeMask(0), () -> x.removeMask(-1));
             x.addMask(0, 0, 1, 1);
-            thrown(INDEX, () -> x.removeMask(1), () -> x.removeMask(-1), () -> x.removeMask(LOW), () -> x.removeMask(HIGH));
+            thrown(INDEX, () -> x.removeMask(1), () -> x.removeMask(-1), () -> x.removeMask(LOW),
+                () -> x.removeMask(HIGH));
             due(x.removeMask(0), 0);
             for (int k = 0; k < 6; k++) {
                 x.addMask(0, 0, 1, 1);
@@ -828,7 +847,8 @@ public final class BoundaryTests extends Checks {
             ScanCompare x = new ScanCompare(8, 8);
             thrown(STATE, x::similarity, x::mismatch, x::turned, x::skew, x::shiftY, x::shiftX);
             x.compare();
-            due(x.similarity() + " " + x.mismatch() + " " + x.turned() + x.skew() + x.shiftY() + x.shiftX(), "1000 0 false000");
+            due(x.similarity() + " " + x.mismatch() + " " + x.turned() + x.skew() + x.shiftY() + x.shiftX(),
+                "1000 0 false000");
         });
     }
 
@@ -887,9 +907,9 @@ public final class BoundaryTests extends Checks {
             ScanCompare x = plain(9, 17);
             x.compare();
             due(x.blockDifference(0, 0) + x.blockDifference(2, 4), 0);
-            thrown(INDEX, () -> x.blockDifference(3, 0), () -> x.blockDifference(0, 5), () -> x.blockDifference(-1, 0),
-                () -> x.blockDifference(0, -1), () -> x.blockDifference(LOW, LOW), () -> x.blockDifference(HIGH, HIGH),
-                () -> x.blockDifference(3, -1), () -> x.blockDifference(-1, 1));
+            thrown(INDEX, () -> x.blockDifference(3, 0), () -> x.blockDifference(0, 5),
+                () -> x.blockDifference(-1, 0), () -> x.blockDifference(0, -1), () -> x.blockDifference(LOW, LOW),
+                () -> x.blockDifference(HIGH, HIGH), () -> x.blockDifference(3, -1), () -> x.blockDifference(-1, 1));
             // The blocks are those of the comparison.
             configure(x, "block=16");
             thrown(INDEX, () -> x.blockDifference(3, 0));
@@ -908,8 +928,10 @@ public final class BoundaryTests extends Checks {
             due(x.regionAt(0, 0) + " " + x.regionAt(9, 9), "-1 -1");
             dots(x, 1, 9, 9, 4, 4);
             x.compare();
-            due(x.regionAt(9, 9) + " " + x.regionAt(8, 8) + " " + x.regionAt(7, 8) + " " + x.regionAt(8, 7), "1 1 -1 -1");
-            due(x.regionAt(4, 4) + " " + x.regionAt(7, 7) + " " + x.regionAt(3, 4) + " " + x.regionAt(4, 3), "0 0 -1 -1");
+            due(x.regionAt(9, 9) + " " + x.regionAt(8, 8) + " " + x.regionAt(7, 8) + " " + x.regionAt(8, 7),
+                "1 1 -1 -1");
+            due(x.regionAt(4, 4) + " " + x.regionAt(7, 7) + " " + x.regionAt(3, 4) + " " + x.regionAt(4, 3),
+                "0 0 -1 -1");
             configure(x, "noise=1");
             x.compare();
             due(x.regionAt(9, 9), -1);
@@ -919,8 +941,9 @@ public final class BoundaryTests extends Checks {
             x.fill(1, 0, 0, 9, 11, true);
             x.compare();
             due(x.regionAt(0, 0) + x.regionAt(8, 10), 0);
-            thrown(INDEX, () -> x.regionAt(9, 0), () -> x.regionAt(0, 11), () -> x.regionAt(-1, 0), () -> x.regionAt(0, -1),
-                () -> x.regionAt(LOW, LOW), () -> x.regionAt(HIGH, HIGH), () -> x.regionAt(11, 0), () -> x.regionAt(9, 11));
+            thrown(INDEX, () -> x.regionAt(9, 0), () -> x.regionAt(0, 11), () -> x.regionAt(-1, 0),
+                () -> x.regionAt(0, -1), () -> x.regionAt(LOW, LOW), () -> x.regionAt(HIGH, HIGH),
+                () -> x.regionAt(11, 0), () -> x.regionAt(9, 11));
         });
         promise(35, "if there is no comparison", () -> {
             ScanCompare x = new ScanCompare(8, 8);
@@ -933,8 +956,8 @@ public final class BoundaryTests extends Checks {
     }
 
     private static void regionBounds() {
-        Get[] gets = {ScanCompare::regionLeft, ScanCompare::regionTop, ScanCompare::regionRight, ScanCompare::regionBottom,
-            ScanCompare::missingPixels, ScanCompare::addedPixels};
+        Get[] gets = {ScanCompare::regionLeft, ScanCompare::regionTop, ScanCompare::regionRight,
+            ScanCompare::regionBottom, ScanCompare::missingPixels, ScanCompare::addedPixels};
         int[][] answers = {{63, 62, 63, 62, 1, 0}, {0, 0, 0, 1, 0, 2}};
         for (int k = 0; k < gets.length; k++) {
             Get get = gets[k];
@@ -1020,7 +1043,8 @@ public final class BoundaryTests extends Checks {
             due(changesOf(x), "*0>0 +1 ");
             due(x.changeTarget(0) + " " + x.changeTarget(1), "0 -1");
         });
-        promise(46, "the left column of the box of its added part minus that of its removed part; 0 for other changes.", () -> {
+        promise(46, "the left column of the box of its added part minus that of its removed part; 0 for other"
+            + " changes.", () -> {
             ScanCompare x = plain(64, 64);
             x.setRow(0, 0, 1L);
             x.setRow(1, 40, 1L << 63);
@@ -1035,7 +1059,8 @@ public final class BoundaryTests extends Checks {
             x.compare();
             due(x.moveX(0) + "," + x.moveX(1), "0,0");
         });
-        promise(47, "the top row of the box of its added part minus that of its removed part; 0 for other changes.", () -> {
+        promise(47, "the top row of the box of its added part minus that of its removed part; 0 for other changes.",
+            () -> {
             ScanCompare x = plain(64, 64);
             dots(x, 0, 5, 0);
             dots(x, 1, 5, 63);
@@ -1066,8 +1091,8 @@ public final class BoundaryTests extends Checks {
     }
 
     private static void changeLines() {
-        promise(49, "Returns the number of the text line of O (of A for an addition) that contains the top row of the box"
-            + " of the part (of the removed part for a move).", () -> {
+        promise(49, "Returns the number of the text line of O (of A for an addition) that contains the top row of"
+            + " the box of the part (of the removed part for a move).", () -> {
             ScanCompare x = plain(32, 64);
             for (int y = 0; y < 64; y += 2) {
                 dots(x, 0, 0, y);
@@ -1105,7 +1130,8 @@ public final class BoundaryTests extends Checks {
     }
 
     private static void reports() {
-        promise(50, "The second line is the number of changes and \" changes\" (\" change\" if the number is 1).", () -> {
+        promise(50, "The second line is the number of changes and \" changes\" (\" change\" if the number is 1).",
+            () -> {
             ScanCompare x = plain(16, 16);
             x.compare();
             due(report(x), "shift 0,0 skew 0\n0 changes\n");
@@ -1116,7 +1142,8 @@ public final class BoundaryTests extends Checks {
             x.compare();
             due(report(x), "shift 0,0 skew 0\n2 changes\nremoved 2 at 0,0 size 2x1\nadded 1 at 15,15 size 1x1\n");
         });
-        promise(50, "The first line is \"shift \", dx, \",\", dy, \" skew \", s, and then \" turned\" if t is 1.", () -> {
+        promise(50, "The first line is \"shift \", dx, \",\", dy, \" skew \", s, and then \" turned\" if t is 1.",
+            () -> {
             ScanCompare x = corner();
             configure(x, "turn=on");
             x.copy(0, 1, 0, 0);
@@ -1140,16 +1167,16 @@ public final class BoundaryTests extends Checks {
                 x.fill(1, 0, 0, 64, 64, false);
                 x.fill(1, 0, 0, size[0], size[1], true);
                 x.compare();
-                due(report(x), "shift 0,0 skew 0\n1 change\nadded " + size[0] * size[1] + " at 0,0 size " + size[0] + "x" + size[1]
-                    + "\n");
+                due(report(x), "shift 0,0 skew 0\n1 change\nadded " + size[0] * size[1] + " at 0,0 size "
+                    + size[0] + "x" + size[1] + "\n");
             }
             ScanCompare y = corner();
             y.copy(0, 1, -10, -1);
             y.compare();
             due(report(y), "shift -10,-1 skew 0\n0 changes\n");
         });
-        promise(50, "If the shape of the part was that of a known stamp when the pages were compared, \" stamp \" and the number"
-            + " that the stamp had then follow.", () -> {
+        promise(50, "If the shape of the part was that of a known stamp when the pages were compared, \" stamp \""
+            + " and the number that the stamp had then follow.", () -> {
             ScanCompare x = compared();
             x.learn(2);
             x.learn(1);
@@ -1170,7 +1197,8 @@ public final class BoundaryTests extends Checks {
         promise(50, "Returns its code; -1 if the report has no such character.", () -> {
             ScanCompare x = new ScanCompare(8, 8);
             x.compare();
-            due(x.reportChar(0) + " " + x.reportChar(16) + " " + x.reportChar(26) + " " + x.reportChar(27), "115 10 10 -1");
+            due(x.reportChar(0) + " " + x.reportChar(16) + " " + x.reportChar(26) + " " + x.reportChar(27),
+                "115 10 10 -1");
             due(x.reportChar(HIGH), -1);
         });
         promise(50, "if i is negative", () -> {
@@ -1267,7 +1295,8 @@ public final class BoundaryTests extends Checks {
             ScanCompare x = bars();
             thrown(INDEX, () -> x.forgetStamp(0), () -> x.forgetStamp(-1));
             x.learn(0);
-            thrown(INDEX, () -> x.forgetStamp(1), () -> x.forgetStamp(-1), () -> x.forgetStamp(LOW), () -> x.forgetStamp(HIGH));
+            thrown(INDEX, () -> x.forgetStamp(1), () -> x.forgetStamp(-1), () -> x.forgetStamp(LOW),
+                () -> x.forgetStamp(HIGH));
             due(x.forgetStamp(0), 0);
             thrown(INDEX, () -> x.forgetStamp(0));
             for (int k = 0; k < 7; k++) {
@@ -1330,7 +1359,8 @@ public final class BoundaryTests extends Checks {
     }
 
     private static void leastNoise() {
-        promise(55, "Finds the least value of noise, 0 to 256, with which there would be at most a given number of regions", () -> {
+        promise(55, "Finds the least value of noise, 0 to 256, with which there would be at most a given number of"
+            + " regions", () -> {
             ScanCompare blank = new ScanCompare(8, 8);
             blank.compare();
             due(blank.leastNoise(0), 0);

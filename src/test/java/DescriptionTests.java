@@ -140,7 +140,9 @@ public final class DescriptionTests extends Checks {
             due(x.lines(1), 32);
             due(x.lineTop(1, 31) + " " + x.lineBottom(1, 31), "62 62");
             dots(x, 2, 0, 63);
-            due(x.lineTop(2, 0) + " " + x.lineBottom(2, 0), "63 63");
+            due(x.lines(2) + " " + x.lineTop(2, 0) + " " + x.lineBottom(2, 0), "1 63 63");
+            dots(x, 3, 0, 0);
+            due(x.lines(3) + " " + x.lineTop(3, 0) + " " + x.lineBottom(3, 0), "1 0 0");
         });
         says("the text lines are numbered from 0, from top to bottom.", () -> {
             ScanCompare x = new ScanCompare(8, 8);
@@ -155,6 +157,16 @@ public final class DescriptionTests extends Checks {
                     ScanCompare x = new ScanCompare(20, 20);
                     dots(x, 0, 10, 10, 10 + dx, 10 + dy);
                     due(x.components(0), Math.abs(dx) <= 1 && Math.abs(dy) <= 1 ? 1 : 2);
+                }
+            }
+            // A pixel above the end of a hook that comes to it from below.
+            for (int dx = -2; dx <= 2; dx++) {
+                for (int dy = 1; dy <= 2; dy++) {
+                    ScanCompare x = new ScanCompare(20, 20);
+                    x.fill(0, 2, 2, 1, 13, true);
+                    x.fill(0, 2, 14, 9, 1, true);
+                    dots(x, 0, 10 + dx, 14 - dy);
+                    due(x.components(0), dy == 1 && dx < 2 ? 1 : 2);
                 }
             }
             // The end of a row is no neighbor of the start of another.
@@ -275,12 +287,16 @@ public final class DescriptionTests extends Checks {
             due(description(x), "skew=1;search=16");
         });
         badSettings("A name is a run of lowercase letters, as long as possible.",
-            "noisenoise=1", 0, "blocks=4", 0, "bloc=4", 0, "nois", 0, "turnon", 0, "block1=4", 5, "noise_=1", 5);
+            "noisenoise=1", 0, "blocks=4", 0, "bloc=4", 0, "lock=4", 0, "nois", 0, "turnon", 0, "boise=1", 0,
+            "noisf=1", 0, "skewa=1", 0, "skewz=1", 0, "block1=4", 5, "noise_=1", 5, "skew`=1", 4, "skew{=1", 4,
+            "skew@=1", 4, "skewZ=1", 4);
         badSettings("A value is a run of lowercase letters and digits, as long as possible:",
-            "noise=1a", 6, "turn=on1", 5, "turn=onoff", 5, "noise=12block=4", 6, "noise=1A", 7, "turn=on-", 7);
+            "noise=1a", 6, "turn=on1", 5, "turn=onoff", 5, "noise=12block=4", 6, "noise=1A", 7, "turn=on-", 7,
+            "noise=1z", 6, "noise=1`", 7, "noise=1{", 7, "noise=1/", 7, "noise=1:", 7, "turn=on0", 5, "turn=on9", 5,
+            "turn=on/", 7, "turn=on:", 7, "turn=ona", 5, "turn=onz", 5, "turn=on`", 7, "turn=on{", 7);
         badSettings("one of the two words for the settings 6, 7 and 9 (off, on; rows, columns; keep, hide)",
             "turn=0", 5, "turn=1", 5, "order=1", 6, "stamps=0", 7, "turn=rows", 5, "order=keep", 6, "stamps=off", 7,
-            "turn=o", 5, "turn=of", 5, "order=column", 6);
+            "turn=o", 5, "turn=of", 5, "order=column", 6, "turn=an", 5, "turn=om", 5, "order=sows", 6, "order=rowt", 6);
         says("one to three digits with a value in the range for all others.", () -> {
             ScanCompare x = new ScanCompare(8, 8);
             due(configure(x, "noise=7;noise=07;noise=007;search=016;block=004"), 5);
@@ -299,7 +315,8 @@ public final class DescriptionTests extends Checks {
     }
 
     private static void settingsErrors() {
-        badSettings("the index of the first character of a name that is not one of the ten names (also if the name is empty)",
+        badSettings("the index of the first character of a name that is not one of the ten names (also if the name"
+            + " is empty)",
             "x", 0, "=", 0, ";", 0, " ", 0, "=4", 0, "Block=4", 0, " block=4", 0, "9", 0, "block=4;=", 8,
             "block=4; noise=1", 8, "block=4;x=1", 8, "block=4;;noise=1", 8);
         badSettings("the index at which an equals sign is missing",
@@ -307,7 +324,8 @@ public final class DescriptionTests extends Checks {
         badSettings("the index of the first character of a value that is not allowed (also if the value is empty)",
             "block=", 6, "block=;", 6, "block==4", 6, "block= 4", 6, "block=-4", 6, "block=3;x", 6, "turn=;", 5,
             "block=4;block=17", 14);
-        badSettings("the index of a character after a value that is not a semicolon, whichever comes first in the text.",
+        badSettings("the index of a character after a value that is not a semicolon, whichever comes first in the"
+            + " text.",
             "block=4,x", 7, "block=4 ", 7, "block=4=", 7, "block=4:noise=999", 7, "turn=on,turn=on", 7,
             "block=4 ;", 7, "block=3 x", 6, "block=4;x,", 8);
         badSettings("It can be the length of the text.", "noise", 5, "noise=", 6, "noise=1;", 8, "noise=1;turn=", 13);
@@ -425,6 +443,19 @@ public final class DescriptionTests extends Checks {
             due(x.addMask(48, 0, 1, 1), 3);
             due(x.removeMask(0), 2);
             due(corners(x), "0,0 8,0 16,0 24,0 40,0 ");
+            // Each mask keeps its own rectangle when its number decreases.
+            ScanCompare y = plain(16, 16);
+            y.fill(1, 0, 0, 16, 16, true);
+            int[][] masks = {{0, 0, 1, 1}, {1, 2, 3, 4}, {4, 3, 2, 11}, {9, 9, 7, 1}};
+            for (int[] m : masks) {
+                y.addMask(m[0], m[1], m[2], m[3]);
+            }
+            int[] left = {256 - 41, 256 - 19, 256 - 7};
+            for (int k = 0; k < 3; k++) {
+                y.removeMask(k % 2);
+                y.compare();
+                due(y.addedPixels(0), left[k]);
+            }
         });
         says("A mask is a rectangle of pixels within the page.", () -> {
             ScanCompare x = plain(9, 11);
@@ -439,8 +470,9 @@ public final class DescriptionTests extends Checks {
             due(x.addMask(8, 10, 1, 1), 1);
             x.compare();
             due(x.addedPixels(0), 98);
-            thrown(ARGUMENT, () -> x.addMask(0, 0, 10, 11), () -> x.addMask(0, 0, 9, 12), () -> x.addMask(8, 10, 2, 1),
-                () -> x.addMask(8, 10, 1, 2), () -> x.addMask(-1, 0, 2, 2), () -> x.addMask(0, -1, 2, 2));
+            thrown(ARGUMENT, () -> x.addMask(0, 0, 10, 11), () -> x.addMask(0, 0, 9, 12),
+                () -> x.addMask(8, 10, 2, 1), () -> x.addMask(8, 10, 1, 2), () -> x.addMask(-1, 0, 2, 2),
+                () -> x.addMask(0, -1, 2, 2));
         });
     }
 
@@ -515,7 +547,8 @@ public final class DescriptionTests extends Checks {
             x.compare();
             due(x.turned() + " " + x.mismatch(), "false 4");
         });
-        says("For each t (0, and also 1 if turn is on) and each s from -skew to skew a shift is found in two stages.", () -> {
+        says("For each t (0, and also 1 if turn is on) and each s from -skew to skew a shift is found in two stages.",
+            () -> {
             ScanCompare x = new ScanCompare(64, 64);
             x.fill(1, 30, 0, 1, 64, true);
             // With a skew of at most 1, the half way is nearer for -2, and for 2 as near as none.
@@ -563,7 +596,8 @@ public final class DescriptionTests extends Checks {
             due(x.mismatchAt(-2, 0) + " " + x.mismatchAt(-3, 0), "2 1");
             due(x.mismatchAt(0, 2) + " " + x.mismatchAt(0, 3), "2 1");
         });
-        says("Its mismatch is the number of pixels (x, y) of the page for which O(x, y) and A(x, y) are different.", () -> {
+        says("Its mismatch is the number of pixels (x, y) of the page for which O(x, y) and A(x, y) are different.",
+            () -> {
             ScanCompare x = new ScanCompare(8, 8);
             x.compare();
             due(x.mismatch(), 0);
@@ -633,6 +667,21 @@ public final class DescriptionTests extends Checks {
             configure(far, "search=0");
             due(shift(far), "0,0");
         });
+        says("the coarse cost is the sum, over all cells (i, j), of the absolute difference", () -> {
+            // A shift that moves the scan's ink off the page leaves no cell of the original to differ from it.
+            int[][] edges = {{0, 8, 4, 0}, {16, 8, -4, 0}, {8, 0, 0, 4}, {8, 16, 0, -4}};
+            for (int[] e : edges) {
+                ScanCompare x = new ScanCompare(20, 20);
+                x.fill(1, e[0], e[1], 4, 4, true);
+                due(shift(x) + " " + x.mismatch(), e[2] + "," + e[3] + " 0");
+            }
+            // The same for the original costs all of its ink.
+            for (int[] e : edges) {
+                ScanCompare x = new ScanCompare(20, 20);
+                x.fill(0, e[0], e[1], 4, 4, true);
+                due(shift(x) + " " + x.mismatch(), "0,0 16");
+            }
+        });
         says("which is 0 if there is no such cell.", () -> {
             // Ink at the edges of the original, which no cell of the blank scan could match.
             ScanCompare x = new ScanCompare(16, 16);
@@ -647,6 +696,10 @@ public final class DescriptionTests extends Checks {
             y.fill(1, 0, 8, 4, 4, true);
             y.fill(0, 8, 8, 4, 2, true);
             y.fill(1, 8, 8, 4, 2, true);
+            due(shift(y), "0,0");
+            // Nor is the cell left of the first one of a row the last one of the row before.
+            y.flip(0, 2);
+            y.flip(1, 2);
             due(shift(y), "0,0");
         });
     }
@@ -672,7 +725,8 @@ public final class DescriptionTests extends Checks {
             x.fill(1, 32, 28, 1, 1, false);
             due(shift(x), "12,0");
         });
-        says("of several, the one with the least |a| + |b|, then the one with the least b, then the one with the least a.", () -> {
+        says("of several, the one with the least |a| + |b|, then the one with the least b, then the one with the"
+            + " least a.", () -> {
             due(shift(cellsAway(2, 2, 3, 0)), "12,0");
             due(shift(cellsAway(2, 2, 0, -3)), "0,-12");
             due(shift(cellsAway(-2, 0, 1, 1)), "-8,0");
@@ -714,6 +768,25 @@ public final class DescriptionTests extends Checks {
                     due(shift(y), "0," + (away == 3 ? way * 3 : 0));
                 }
             }
+            // All cells of a row have equally much ink, so that no cell is better than the one at the same place.
+            for (int way = -1; way <= 1; way += 2) {
+                ScanCompare y = new ScanCompare(32, 32);
+                ScanCompare z = new ScanCompare(32, 32);
+                for (int k = 0; k < 32; k++) {
+                    int at = 4 * (k / 4) + (k * k / 3 + k / 5) % 4;
+                    int row = 16 + k % 4;
+                    dots(y, 0, at, row);
+                    dots(y, 1, Math.floorMod(at + 4 * way, 32), row);
+                    dots(z, 0, row, at);
+                    dots(z, 1, row, Math.floorMod(at + 4 * way, 32));
+                }
+                y.compare();
+                due(Math.abs(y.shiftX()) < 4 && Math.abs(y.shiftY()) < 4, true);
+                due(y.mismatchAt(4 * way, 0) < y.mismatch(), true);
+                z.compare();
+                due(Math.abs(z.shiftX()) < 4 && Math.abs(z.shiftY()) < 4, true);
+                due(z.mismatchAt(0, 4 * way) < z.mismatch(), true);
+            }
             // A better shift, 4 columns away from the cell that the coarse stage chooses.
             ScanCompare z = new ScanCompare(32, 32);
             z.fill(0, 10, 8, 4, 4, true);
@@ -737,7 +810,8 @@ public final class DescriptionTests extends Checks {
                 }
             }
         });
-        says("of several, the one with the least |dx| + |dy|, then the one with the least dy, then the one with the least dx.", () -> {
+        says("of several, the one with the least |dx| + |dy|, then the one with the least dy, then the one with the"
+            + " least dx.", () -> {
             due(shift(dotsAway(2, 2, 3, 0)), "3,0");
             due(shift(dotsAway(2, 2, 0, -3)), "0,-3");
             due(shift(dotsAway(-2, 0, 1, 1)), "-2,0");
@@ -752,7 +826,7 @@ public final class DescriptionTests extends Checks {
         });
     }
 
-    /** An original with one pixel, and a scan with some that lie so far away, which is found by the fine stage alone. */
+    /** As cellsAway, but with single pixels, whose shift is found by the fine stage alone. */
     private static ScanCompare dotsAway(int... aways) {
         ScanCompare x = new ScanCompare(32, 32);
         configure(x, "search=3");
@@ -849,8 +923,8 @@ public final class DescriptionTests extends Checks {
     }
 
     private static void differences() {
-        jitters("An ink pixel (x, y) of O is missing if A has no ink pixel that differs from (x, y) by at most jitter in x"
-            + " and by at most jitter in y.", 0);
+        jitters("An ink pixel (x, y) of O is missing if A has no ink pixel that differs from (x, y) by at most"
+            + " jitter in x and by at most jitter in y.", 0);
         jitters("An ink pixel (x, y) of A is added if O has no such ink pixel.", 1);
         says("is missing if A has no ink pixel", () -> {
             // The edges of a row don't touch, and what the shift moves off the page is not there.
@@ -875,8 +949,9 @@ public final class DescriptionTests extends Checks {
             dots(x, 0, 5, 6);
             dots(x, 1, 20, 21);
             int[][] masks = {{5, 6, 1, 1, 1}, {20, 21, 1, 1, 1}, {4, 6, 1, 1, 2}, {6, 6, 1, 1, 2}, {5, 5, 1, 1, 2},
-                {5, 7, 1, 1, 2}, {0, 0, 5, 32, 2}, {0, 0, 6, 32, 1}, {0, 0, 32, 6, 2}, {0, 0, 32, 7, 1}, {21, 0, 11, 32, 2},
-                {20, 0, 12, 32, 1}, {0, 22, 32, 10, 2}, {0, 21, 32, 11, 1}, {5, 6, 16, 16, 0}, {0, 0, 32, 32, 0}};
+                {5, 7, 1, 1, 2}, {0, 0, 5, 32, 2}, {0, 0, 6, 32, 1}, {0, 0, 32, 6, 2}, {0, 0, 32, 7, 1},
+                {21, 0, 11, 32, 2}, {20, 0, 12, 32, 1}, {0, 22, 32, 10, 2}, {0, 21, 32, 11, 1}, {5, 6, 16, 16, 0},
+                {0, 0, 32, 32, 0}};
             for (int[] m : masks) {
                 due(x.addMask(m[0], m[1], m[2], m[3]), 1);
                 due(differences(x, 8, 8), m[4]);
@@ -913,7 +988,8 @@ public final class DescriptionTests extends Checks {
                 }
             }
         });
-        says("block (i, j) contains the pixels of the page with B * i <= x < B * i + B and B * j <= y < B * j + B", () -> {
+        says("block (i, j) contains the pixels of the page with B * i <= x < B * i + B and B * j <= y < B * j + B",
+            () -> {
             ScanCompare x = plain(24, 24);
             configure(x, "block=8");
             dots(x, 1, 7, 7, 8, 7, 7, 8, 8, 8, 15, 15, 16, 15, 15, 16, 16, 16);
@@ -960,12 +1036,29 @@ public final class DescriptionTests extends Checks {
                 x.compare();
                 due(x.regions(), k % 2 == 0 && k != 4 ? 2 : 1);
             }
+            // Blocks that are reached from the one right of them, or from the one below.
+            ScanCompare hook = plain(32, 32);
+            dots(hook, 1, 8, 0, 8, 4, 4, 4);
+            hook.compare();
+            due(hook.regions(), 1);
+            dots(hook, 1, 4, 20, 4, 24, 8, 24, 8, 20);
+            hook.compare();
+            due(hook.regions(), 2);
+            ScanCompare gap = plain(32, 32);
+            dots(gap, 1, 8, 0, 8, 4, 0, 4, 0, 20, 0, 24, 4, 24, 8, 24, 8, 16);
+            gap.compare();
+            due(gap.regions(), 4);
             // The last block of a row and the first one of the next do not share one.
             for (int w : new int[] {8, 10, 64}) {
                 ScanCompare x = plain(w, 16);
                 dots(x, 1, w - 1, 1, 0, 5);
                 x.compare();
                 due(x.regions(), 2);
+                if (w > 8) {
+                    dots(x, 1, 0, 1);
+                    x.compare();
+                    due(x.regions(), 2);
+                }
             }
         });
         says("A region is a maximal set of changed blocks that are connected by adjacent blocks.", () -> {
@@ -1003,8 +1096,26 @@ public final class DescriptionTests extends Checks {
             y.compare();
             due(y.regions() + " " + box(y, 0), "1 5,5,9,7");
             due(y.missingPixels(0) + " " + y.addedPixels(0), "2 2");
+            y.copy(0, 2, 0, 0);
+            y.copy(1, 0, 0, 0);
+            y.copy(2, 1, 0, 0);
+            y.compare();
+            due(y.regions() + " " + box(y, 0), "1 5,5,9,7");
+            // The removed or the added part alone reaches each side of the box.
+            ScanCompare z = plain(16, 16);
+            z.fill(0, 4, 4, 8, 8, true);
+            z.fill(0, 5, 5, 6, 6, false);
+            dots(z, 1, 6, 6, 9, 9);
+            z.compare();
+            due(z.regions() + " " + box(z, 0), "1 4,4,11,11");
+            z.copy(0, 2, 0, 0);
+            z.copy(1, 0, 0, 0);
+            z.copy(2, 1, 0, 0);
+            z.compare();
+            due(z.regions() + " " + box(z, 0), "1 4,4,11,11");
         });
-        says("Regions are found in the order of their first blocks, row of blocks by row of blocks, each from left to right.", () -> {
+        says("Regions are found in the order of their first blocks, row of blocks by row of blocks, each from left"
+            + " to right.", () -> {
             // Two regions with the same top and left: one in the corner, and one that goes around it.
             ScanCompare x = around(plain(32, 32));
             x.compare();
@@ -1041,7 +1152,8 @@ public final class DescriptionTests extends Checks {
     }
 
     private static void bands() {
-        says("With order = rows the regions are sorted by the top of their boxes, then by the left, then as they were found.", () -> {
+        says("With order = rows the regions are sorted by the top of their boxes, then by the left, then as they"
+            + " were found.", () -> {
             ordered("");
             ordered("63,63 ", 63, 63, 1, 1);
             ordered("40,1 0,2 20,20 0,40 ", 0, 2, 1, 1, 40, 1, 1, 1, 20, 20, 1, 1, 0, 40, 1, 1);
@@ -1054,7 +1166,8 @@ public final class DescriptionTests extends Checks {
             ordered("0,0 40,0 ", 40, 0, 1, 1, 0, 0, 1, 1);
             ordered("40,0 0,1 ", 40, 0, 1, 1, 0, 1, 1, 1);
         });
-        says("each further region belongs to the current band if the top of its box is at most the end of the band", () -> {
+        says("each further region belongs to the current band if the top of its box is at most the end of the band",
+            () -> {
             ordered("0,25 40,20 ", 40, 20, 1, 6, 0, 25, 1, 1);
             ordered("40,20 0,26 ", 40, 20, 1, 6, 0, 26, 1, 1);
             ordered("0,63 40,20 ", 40, 20, 1, 44, 0, 63, 1, 1);
@@ -1076,7 +1189,8 @@ public final class DescriptionTests extends Checks {
     }
 
     private static void regionOrder() {
-        says("Within a band, the regions are then sorted by the left of their boxes, then by the top, then as they were found.", () -> {
+        says("Within a band, the regions are then sorted by the left of their boxes, then by the top, then as they"
+            + " were found.", () -> {
             ordered("3,30 20,9 21,0 40,0 ", 40, 0, 1, 40, 21, 0, 1, 2, 20, 9, 1, 1, 3, 30, 1, 1);
             ordered("4,8 4,20 24,0 ", 24, 0, 2, 30, 4, 20, 2, 2, 4, 8, 2, 2);
             ordered("0,30 1,20 63,0 ", 63, 0, 1, 40, 1, 20, 1, 1, 0, 30, 1, 1);
@@ -1084,7 +1198,8 @@ public final class DescriptionTests extends Checks {
             x.compare();
             due(x.regionRight(0) + " " + x.regionRight(1), "0 8");
         });
-        says("With order = columns the same is done with left and top exchanged, and right and bottom exchanged.", () -> {
+        says("With order = columns the same is done with left and top exchanged, and right and bottom exchanged.",
+            () -> {
             ScanCompare x = plain(64, 64);
             x.fill(1, 0, 40, 10, 1, true);
             dots(x, 1, 9, 0, 10, 8);
@@ -1096,7 +1211,8 @@ public final class DescriptionTests extends Checks {
             ScanCompare x = plain(32, 32);
             dots(x, 1, 24, 1, 0, 1, 8, 28, 16, 0);
             x.compare();
-            due(x.regionAt(16, 0) + " " + x.regionAt(0, 0) + " " + x.regionAt(24, 0) + " " + x.regionAt(8, 28), "0 1 2 3");
+            due(x.regionAt(16, 0) + " " + x.regionAt(0, 0) + " " + x.regionAt(24, 0) + " " + x.regionAt(8, 28),
+                "0 1 2 3");
             due(x.regionAt(8, 0), -1);
             thrown(INDEX, () -> x.regionLeft(4), () -> x.regionLeft(-1));
         });
@@ -1140,6 +1256,7 @@ public final class DescriptionTests extends Checks {
             due(pairing(new String[] {"##"}, new String[] {"#.#"}), "-0 +1 ");
             due(pairing(new String[] {"#", "#"}, new String[] {"#", "", "#"}), "-0 +1 ");
             due(pairing(new String[] {"##", "#"}, new String[] {"##", ".#"}), "-0 +1 ");
+            due(pairing(new String[] {"#.", "##"}, new String[] {".#", "##"}), "-0 +1 ");
             due(pairing(new String[] {"##", "##"}, new String[] {"##", "#"}), "-0 +1 ");
             due(pairing(new String[] {"#.", ".#"}, new String[] {".#", "#."}), "-0 +1 ");
         });
@@ -1196,7 +1313,8 @@ public final class DescriptionTests extends Checks {
             x.compare();
             due(changesOf(x), "*0>2 -1 ");
         });
-        says("is not paired yet and whose region has the least number (it may be the same region), if there is one.", () -> {
+        says("is not paired yet and whose region has the least number (it may be the same region), if there is one.",
+            () -> {
             ScanCompare x = plain(32, 32);
             dots(x, 1, 1, 0);
             dots(x, 0, 1, 20);
@@ -1222,8 +1340,8 @@ public final class DescriptionTests extends Checks {
     }
 
     private static void changes() {
-        says("first the removed part of the region, as a move if it is paired, otherwise as a removal; then its added part,"
-            + " as an addition, unless it is paired.", () -> {
+        says("first the removed part of the region, as a move if it is paired, otherwise as a removal; then its"
+            + " added part, as an addition, unless it is paired.", () -> {
             ScanCompare x = plain(32, 32);
             dots(x, 0, 1, 1);
             dots(x, 1, 0, 0, 2, 0);
@@ -1303,7 +1421,8 @@ public final class DescriptionTests extends Checks {
     // ---- results, history, exceptions
 
     private static void results() {
-        says("They stay the same, whatever is done with pages, settings, masks and stamps, until the next comparison.", () -> {
+        says("They stay the same, whatever is done with pages, settings, masks and stamps, until the next"
+            + " comparison.", () -> {
             ScanCompare x = compared();
             String before = resultsOf(x);
             for (Consumer<ScanCompare> step : steps()) {
@@ -1375,8 +1494,8 @@ public final class DescriptionTests extends Checks {
     }
 
     private static void history() {
-        says("A history of at most 8 states is kept: each edit adds the state before it, and if there are 8 already,"
-            + " the oldest one is dropped;", () -> {
+        says("A history of at most 8 states is kept: each edit adds the state before it, and if there are 8"
+            + " already, the oldest one is dropped;", () -> {
             for (int edits = 0; edits <= 20; edits++) {
                 ScanCompare x = new ScanCompare(8, 8);
                 for (int k = 1; k <= edits; k++) {
@@ -1436,9 +1555,10 @@ public final class DescriptionTests extends Checks {
         says("If several exceptions apply to a call, the one that is listed first is thrown.", () -> {
             ScanCompare x = busy();
             thrown(INDEX, () -> x.fill(4, 0, 0, -1, -1, true), () -> x.flip(-1, 3), () -> x.despeckle(4, 65),
-                () -> x.words(4, 0, 0), () -> x.words(0, 99, 0), () -> x.words(0, -1, 65), () -> x.ink(-1, 0, 0, -1, 0),
-                () -> x.learn(-1), () -> x.learn(99));
-            thrown(ARGUMENT, () -> x.type(31), () -> x.type(127), () -> x.addMask(0, 0, 0, 0), () -> x.addMask(-1, 0, 1, 1));
+                () -> x.words(4, 0, 0), () -> x.words(0, 99, 0), () -> x.words(0, -1, 65),
+                () -> x.ink(-1, 0, 0, -1, 0), () -> x.learn(-1), () -> x.learn(99));
+            thrown(ARGUMENT, () -> x.type(31), () -> x.type(127), () -> x.addMask(0, 0, 0, 0),
+                () -> x.addMask(-1, 0, 1, 1));
             ScanCompare fresh = new ScanCompare(8, 8);
             thrown(INDEX, () -> fresh.learn(-1), () -> fresh.learn(0));
             refusedWithoutComparison(fresh);
@@ -1461,20 +1581,22 @@ public final class DescriptionTests extends Checks {
     private static void refused(ScanCompare x) {
         thrown(INDEX, () -> x.setRow(4, 0, 1), () -> x.setRow(0, 64, 1), () -> x.setRow(0, -1, 1),
             () -> x.fill(4, 0, 0, 9, 9, true), () -> x.copy(0, 4, 1, 1), () -> x.copy(4, 0, 1, 1), () -> x.merge(4),
-            () -> x.flip(4, 0), () -> x.despeckle(4, 9), () -> x.paste(4, 0, 0), () -> x.removeMask(6), () -> x.removeMask(-1),
-            () -> x.forgetStamp(7), () -> x.forgetStamp(-1), () -> x.learn(9), () -> x.accept(9), () -> x.accept(-1));
-        thrown(ARGUMENT, () -> x.fill(0, 0, 0, 9, -1, true), () -> x.flip(0, 3), () -> x.despeckle(0, 65), () -> x.type(31),
-            () -> x.addMask(0, 0, 65, 1), () -> x.mismatchAt(17, 0), () -> x.leastNoise(-1));
+            () -> x.flip(4, 0), () -> x.despeckle(4, 9), () -> x.paste(4, 0, 0), () -> x.removeMask(6),
+            () -> x.removeMask(-1), () -> x.forgetStamp(7), () -> x.forgetStamp(-1), () -> x.learn(9),
+            () -> x.accept(9), () -> x.accept(-1));
+        thrown(ARGUMENT, () -> x.fill(0, 0, 0, 9, -1, true), () -> x.flip(0, 3), () -> x.despeckle(0, 65),
+            () -> x.type(31), () -> x.addMask(0, 0, 65, 1), () -> x.mismatchAt(17, 0), () -> x.leastNoise(-1));
         thrown(STATE, () -> x.type('o'), () -> x.addMask(0, 0, 1, 1), () -> x.learn(7));
     }
 
     private static void refusedWithoutComparison(ScanCompare x) {
         thrown(STATE, x::shiftX, x::shiftY, x::skew, x::turned, x::mismatch, x::similarity, x::regions, x::changes,
-            () -> x.mismatchAt(17, 0), () -> x.blockDifference(-1, 0), () -> x.regionAt(-1, 0), () -> x.regionLeft(-1),
-            () -> x.regionTop(-1), () -> x.regionRight(-1), () -> x.regionBottom(-1), () -> x.missingPixels(-1),
-            () -> x.addedPixels(-1), () -> x.changeKind(-1), () -> x.changeRegion(-1), () -> x.changeTarget(-1),
-            () -> x.moveX(-1), () -> x.moveY(-1), () -> x.changePixels(-1), () -> x.changeLine(-1), () -> x.reportChar(-1),
-            () -> x.stampOf(-1), () -> x.accept(-1), () -> x.leastNoise(-1), x::undo);
+            () -> x.mismatchAt(17, 0), () -> x.blockDifference(-1, 0), () -> x.regionAt(-1, 0),
+            () -> x.regionLeft(-1), () -> x.regionTop(-1), () -> x.regionRight(-1), () -> x.regionBottom(-1),
+            () -> x.missingPixels(-1), () -> x.addedPixels(-1), () -> x.changeKind(-1), () -> x.changeRegion(-1),
+            () -> x.changeTarget(-1), () -> x.moveX(-1), () -> x.moveY(-1), () -> x.changePixels(-1),
+            () -> x.changeLine(-1), () -> x.reportChar(-1), () -> x.stampOf(-1), () -> x.accept(-1),
+            () -> x.leastNoise(-1), x::undo);
     }
 
     /** All that can be seen of an object, which is used up by that. */
