@@ -843,12 +843,31 @@ public final class BoundaryTests extends Checks {
             x.compare();
             due(x.similarity(), 999);
         });
-        promise(31, "if there is no comparison", () -> {
+        ask(26, ScanCompare::shiftX, 0);
+        ask(27, ScanCompare::shiftY, 0);
+        ask(28, ScanCompare::skew, 0);
+        ask(29, ScanCompare::turned, false);
+        ask(30, ScanCompare::mismatch, 0);
+        ask(31, ScanCompare::similarity, 1000);
+        ask(34, ScanCompare::regions, 0);
+        ask(42, ScanCompare::changes, 0);
+    }
+
+    private interface Question {
+        Object of(ScanCompare x);
+    }
+
+    /** Tests a question without arguments, before and after a comparison of blank pages. */
+    private static void ask(int number, Question question, Object blank) {
+        promise(number, "if there is no comparison", () -> {
             ScanCompare x = new ScanCompare(8, 8);
-            thrown(STATE, x::similarity, x::mismatch, x::turned, x::skew, x::shiftY, x::shiftX);
+            thrown(STATE, () -> question.of(x));
+            x.fill(0, 0, 0, 8, 8, true);
+            x.undo();
+            x.configure();
+            thrown(STATE, () -> question.of(x));
             x.compare();
-            due(x.similarity() + " " + x.mismatch() + " " + x.turned() + x.skew() + x.shiftY() + x.shiftX(),
-                "1000 0 false000");
+            due(question.of(x), blank);
         });
     }
 
@@ -1035,6 +1054,20 @@ public final class BoundaryTests extends Checks {
     }
 
     private static void moves() {
+        promise(42, "Returns the number of changes.", () -> {
+            ScanCompare x = compared();
+            due(x.changes(), 3);
+            x.learn(0);
+            x.learn(1);
+            x.learn(2);
+            configure(x, "stamps=hide");
+            due(x.changes(), 3);
+            x.compare();
+            due(x.changes(), 1);
+            x.copy(0, 1, 0, 0);
+            x.compare();
+            due(x.changes(), 0);
+        });
         promise(45, "-1 if the change is no move.", () -> {
             ScanCompare x = plain(32, 32);
             dots(x, 0, 1, 1);
