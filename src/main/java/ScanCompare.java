@@ -14,6 +14,7 @@ public final class ScanCompare {
     private static final int MOST_CELLS = 256;
     private static final int CELL = 4;
     private static final int GREATEST_SHIFT = 16;
+    private static final int ABOVE_ALL_COSTS = 1000000;
     private static final int GREATEST_NOISE = 256;
     private static final int GREATEST_SPECKLE = 64;
     private static final int GREATEST_GAP = 64;
@@ -833,10 +834,10 @@ public final class ScanCompare {
             for (int sweep = 0; grown && sweep <= area; sweep++) {
                 grown = false;
                 for (int y = top; y < height && y <= bottom + 1; y++) {
-                    grown |= spread(y);
+                    grown = spread(y) || grown;
                 }
                 for (int y = bottom; y >= top; y--) {
-                    grown |= spread(y);
+                    grown = spread(y) || grown;
                 }
             }
         }
@@ -980,7 +981,8 @@ public final class ScanCompare {
         /** The error position of the text as a pattern, -1 if it has no error. */
         int patternError() {
             int at = 0;
-            while (at < length) {
+            // An item has a sign, so there are at most as many items as characters.
+            for (int item = 0; item < length && at < length; item++) {
                 int end = endOfDigits(at);
                 int digits = end - at;
                 if (digits > 2) {
@@ -1018,7 +1020,7 @@ public final class ScanCompare {
             long column = x;
             long line = y;
             int at = 0;
-            while (at < length) {
+            for (int item = 0; item < length && at < length; item++) {
                 int end = endOfDigits(at);
                 int count = end > at ? numberOf(at, end) : 1;
                 int sign = codeAt(end);
@@ -1459,7 +1461,7 @@ public final class ScanCompare {
 
         void search(Image original, Image scan, int reach, int mostSlant, boolean mayTurn) {
             countCells(original, originalCells);
-            cost = Integer.MAX_VALUE;
+            cost = ABOVE_ALL_COSTS;
             // The order of the tries is the order in which ties are broken.
             for (int turn = 0; turn <= (mayTurn ? 1 : 0); turn++) {
                 for (int k = 0; k <= 2 * mostSlant; k++) {
@@ -1512,7 +1514,7 @@ public final class ScanCompare {
         }
 
         private void findCoarse(int most) {
-            bestCost = Integer.MAX_VALUE;
+            bestCost = ABOVE_ALL_COSTS;
             for (int b = -most; b <= most; b++) {
                 for (int a = -most; a <= most; a++) {
                     offer(a, b, coarseCost(a, b));
@@ -1525,7 +1527,7 @@ public final class ScanCompare {
             int endX = Math.min(reach, middleX + CELL - 1);
             int startY = Math.max(-reach, middleY - CELL + 1);
             int endY = Math.min(reach, middleY + CELL - 1);
-            bestCost = Integer.MAX_VALUE;
+            bestCost = ABOVE_ALL_COSTS;
             for (int y = startY; y <= endY; y++) {
                 for (int x = startX; x <= endX; x++) {
                     offer(x, y, costOf(original, x, y));
@@ -1633,8 +1635,10 @@ public final class ScanCompare {
         private final int[] waiting = new int[MOST_BLOCKS];
         /** The regions as they were found; a place is filled when it is first needed. */
         private final Region[] finds = new Region[MOST_BLOCKS];
+        /** The first regionCount places are filled; there are never more regions than blocks. */
         private final Region[] ordered = new Region[MOST_BLOCKS];
         int regionCount;
+        /** The first changeCount places are filled. */
         private final Part[] listed = new Part[2 * MOST_BLOCKS];
         int changeCount;
 
