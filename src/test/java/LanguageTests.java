@@ -114,7 +114,8 @@ public final class LanguageTests {
         String[] words = {"\\bimport\\b", "\\bpackage\\b", "\\btry\\b", "\\bcatch\\b", "\\bfinally\\b", "\\bassert\\b",
             "\\bsynchronized\\b", "->", "::", "\\bfloat\\b", "\\bdouble\\b", "Exact\\b", "\\bSystem\\.(?!arraycopy)",
             "\\b(equals|hashCode|toString)\\b", "\\bObject\\b", "\\bprotected\\b", "\\bvolatile\\b", "\\bnative\\b",
-            "\\bThread\\b", "\\bRandom\\b", "\\bvar\\b", "\"\"\\s*\\+", "\\+\\s*\"\"", "\\+=\\s*\"\""};
+            "\\bThread\\b", "\\bRandom\\b", "\\bvar\\b", "\\b(Integer|Long|Math)\\.(?![a-z]+\\w*\\()",
+            "\\bfor \\(;", "\\bwhile \\(true\\)", "\"\"\\s*\\+", "\\+\\s*\"\"", "\\+=\\s*\"\""};
         for (String word : words) {
             Matcher m = Pattern.compile(word).matcher(code);
             if (m.find()) {
